@@ -9,6 +9,7 @@ public final class MandateTest {
         refusesToGive();
         givesAtMostTwelve();
         countsTheChain();
+        chainsAllTwelve();
         withdrawsAllThatLiesUnder();
         dropsRequestsButNotUrgentOnes();
         changesLimits();
@@ -108,6 +109,26 @@ public final class MandateTest {
         }
         Checks.due("mandate(11, 8)", book.mandate(11, 8), 11);
         Checks.due("mandate(0, 9)", book.mandate(0, 9), 10);
+    }
+
+    private static void chainsAllTwelve() {
+        LapseMandates book = new LapseMandates();
+        book.set(1, 12);
+        for (int number = 0; number < 12; number++) {
+            book.give(number - 1, number == 0 ? 7 : number % 3, 100, 100, number == 11 ? 1 : 0);
+        }
+        Checks.due("twelve: mandate(11, 8)", book.mandate(11, 8), 12);
+        Checks.due("twelve: mandate(0, 9)", book.mandate(0, 9), 11);
+        Checks.due("twelve: under(0)", book.under(0), 4095);
+        book.spend(11, 30);
+        Checks.due("twelve: who can approve", book.request(0, 6), 0b10000011);
+        Checks.due("twelve: the topmost approves", book.approve(0, 7), 1);
+        Checks.due("twelve: it counts for the topmost", book.mandate(0, 6), 30);
+        book.spend(0, 60);
+        Checks.due("twelve: narrowest(11)", book.narrowest(11), 0);
+        Checks.due("twelve: room(11)", book.room(11, false), 10);
+        Checks.due("twelve: whyNot(11, 11)", book.whyNot(11, 11), 3);
+        Checks.due("twelve: withdraw(0)", book.withdraw(0), 12);
     }
 
     /** 0 - (1 - (2, 4 - 5), 3), 6. */

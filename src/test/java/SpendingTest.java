@@ -236,6 +236,14 @@ public final class SpendingTest {
         Checks.due("two were dropped", together.count(9), 2);
         Checks.due("three lapsed by late ones", together.count(10), 3);
 
+        LapseMandates six = new LapseMandates();
+        for (int number = 0; number < 6; number++) {
+            six.give(-1, number, 10, 10, 1);
+            six.urge(number, 5);
+        }
+        Checks.due("pass: six are late on one day", six.pass(4), 6);
+        Checks.due("nothing waits", six.count(2), 0);
+
         LapseMandates gone = chain(1);
         gone.urge(2, 10);
         gone.withdraw(2);
