@@ -35,7 +35,7 @@ public final class LapseMandates {
     private static final int MOST_HALVINGS = 64;
     private static final int EXPONENT_BIAS = 1023;
     private static final int FRACTION_BITS = 52;
-    private static final double FRACTION_UNITS = 4503599627370496.0;
+    private static final long FRACTION_UNITS = 1L << FRACTION_BITS;
 
     private final Book book = new Book();
     private final History history = new History();
@@ -375,7 +375,7 @@ public final class LapseMandates {
             scaled = scaled * 2.0;
             exponent--;
         }
-        long fraction = (long) ((scaled - 1.0) * FRACTION_UNITS);
+        long fraction = (long) ((scaled - 1.0) * (double) FRACTION_UNITS);
         return ((long) (exponent + EXPONENT_BIAS) << FRACTION_BITS) + fraction;
     }
 
