@@ -42,22 +42,7 @@ public final class ModelTest {
 
     private void compare(String name, String call, Checks.Call got, Checks.Call want) {
         log = call;
-        int thrown = 0;
-        long answer = 0;
-        try {
-            answer = got.answer();
-        } catch (RuntimeException exception) {
-            thrown = Checks.kindOf(exception);
-        }
-        int thrownByModel = 0;
-        long due = 0;
-        try {
-            due = want.answer();
-        } catch (RuntimeException exception) {
-            thrownByModel = Checks.kindOf(exception);
-        }
-        Checks.due(name + call + " throws", thrown, thrownByModel);
-        Checks.due(name + call, answer, due);
+        Checks.dueSame(name + call, got, want);
     }
 
     private int oneOf(int bound) {

@@ -4,8 +4,13 @@ final class Checks {
     static final int ILLEGAL_ARGUMENT = 2;
     static final int ILLEGAL_STATE = 3;
 
+    static final int MIN = Integer.MIN_VALUE;
+    static final int MAX = Integer.MAX_VALUE;
+
     private static int wrong = 0;
     private static int made = 0;
+    private static int tests = 0;
+    private static String sentence = "";
 
     private Checks() {
     }
@@ -14,11 +19,28 @@ final class Checks {
         long answer();
     }
 
+    interface CallOf {
+        long answer(int value);
+    }
+
+    /** The test of one sentence of the document, told by where it stands and its words, if an answer is wrong. */
+    static void test(String where, String words, Runnable body) {
+        tests++;
+        sentence = where + ", \"" + words + "\": ";
+        try {
+            body.run();
+        } catch (RuntimeException thrown) {
+            wrong++;
+            System.out.println(sentence + "threw " + thrown);
+        }
+        sentence = "";
+    }
+
     static void due(String call, long got, long want) {
         made++;
         if (got != want) {
             wrong++;
-            System.out.println(call + " answered " + got + ", due is " + want);
+            System.out.println(sentence + call + " answered " + got + ", due is " + want);
         }
     }
 
@@ -37,20 +59,35 @@ final class Checks {
         return thrown.getClass() == IllegalStateException.class ? ILLEGAL_STATE : -1;
     }
 
-    static int thrownBy(Call call) {
+    /** The answer, and the kind that was thrown, 0 if none was. */
+    private static long[] outcomeOf(Call call) {
         try {
-            call.answer();
-            return 0;
+            return new long[] {call.answer(), 0};
         } catch (RuntimeException thrown) {
-            return kindOf(thrown);
+            return new long[] {0, kindOf(thrown)};
         }
     }
 
     /** The call throws the kind that is due, and leaves the object as it was. */
     static void dueThrow(LapseMandates book, String name, int kind, Call call) {
         long before = book.digest();
-        due(name + " throws (1 bounds, 2 argument, 3 state)", thrownBy(call), kind);
+        due(name + " throws (1 bounds, 2 argument, 3 state)", outcomeOf(call)[1], kind);
         due("digest() after " + name + " threw", book.digest(), before);
+    }
+
+    /** The call throws the kind that is due for each of the values. */
+    static void dueThrows(LapseMandates book, String name, int kind, CallOf call, int... values) {
+        for (int value : values) {
+            dueThrow(book, name + " " + value, kind, () -> call.answer(value));
+        }
+    }
+
+    /** Both answer the same, or throw the same. */
+    static void dueSame(String name, Call got, Call want) {
+        long[] came = outcomeOf(got);
+        long[] wanted = outcomeOf(want);
+        due(name + " throws", came[1], wanted[1]);
+        due(name, came[0], wanted[0]);
     }
 
     static void write(LapseMandates book, String signs) {
@@ -60,7 +97,8 @@ final class Checks {
     }
 
     static void close() {
-        System.out.println(wrong == 0 ? made + " answers are as due" : wrong + " answers are not as due");
+        System.out.println((tests > 0 ? tests + " sentences, " : "")
+                + (wrong == 0 ? made + " answers are as due" : wrong + " answers are not as due"));
         if (wrong != 0) {
             System.exit(1);
         }
