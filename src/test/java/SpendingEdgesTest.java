@@ -154,6 +154,10 @@ public final class SpendingEdgesTest {
         Checks.due("the last day of the period", book.whyNot(2, 1), 3);
         book.pass(1);
         Checks.due("the next period", book.whyNot(2, 200), 0);
+        LapseMandates ladder = Books.ladder();
+        ladder.spend(0, 1);
+        Checks.due("as much, of the topmost of twelve", ladder.whyNot(11, 99), 0);
+        Checks.due("more by 1, of the topmost of twelve", ladder.whyNot(11, 100), 3);
     }
 
     private static void notRefused() {
@@ -470,6 +474,11 @@ public final class SpendingEdgesTest {
         changed.set(0, 0);
         Checks.due("it stands until a day passes", changed.mandate(2, 5), 1);
         Checks.due("too late", changed.pass(1), 1);
+        LapseMandates among = Books.chain(1);
+        Checks.write(among, "s2:1;s2:2;u2:3;s0:4;s2:5;s1:6");
+        among.run();
+        Checks.due("too late, among others", among.pass(4), 1);
+        dueAmounts("it and those of its mandate are gone", among, 4, 6);
     }
 
     private static void lateOneOfALapsedMandate() {

@@ -700,7 +700,8 @@ public final class TextEdgesTest {
 
     private static void runIncomplete() {
         String[] texts = {"", "s", "s0", "s1", "s11", "s0:", "s0:1;", "s0:1;u", "s0:1;u1", "s0:1;u1:", "x", "s0:1x",
-            "s0:10000", "s0:0", "s12:1", "s0:1;s0:1;;", FULL};
+            "s0:10000", "s0:0", "s12:1", "s0:1;s0:1;;", "xs0:1", "xys0:1", "s0:1x;s0:1", "s0:1;xys0:1", "s0:0;s0:1",
+            FULL};
         for (String signs : texts) {
             LapseMandates book = Books.twelve();
             Checks.write(book, signs);

@@ -188,6 +188,10 @@ public final class WouldBeEdgesTest {
         dueRoom("what is left of the topmost, for itself", book, 0, 1);
         book.pass(10);
         dueRoom("in the next period", book, 2, 200);
+        LapseMandates ladder = Books.ladder();
+        ladder.need(11, 0);
+        ladder.spend(0, 1);
+        dueRoom("what is left of the topmost of twelve", ladder, 11, 99);
         LapseMandates most = Books.twelve();
         dueRoom("the greatest of all", most, 11, 9999);
         most.limit(11, 9999, 1);
@@ -336,6 +340,9 @@ public final class WouldBeEdgesTest {
         dueEach("when all lapsed:", book::narrowest, 0, 0, 0);
         book.pass(10);
         dueEach("in the next period:", book::narrowest, 0, 1, 2);
+        LapseMandates ladder = Books.ladder();
+        ladder.spend(0, 1);
+        dueEach("the topmost of twelve:", ladder::narrowest, 0, 0, 0, 0, 0, 0, 0, 0, 0, 0, 0, 0);
     }
 
     private static void nearestOfSeveral() {
