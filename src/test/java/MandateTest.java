@@ -131,21 +131,8 @@ public final class MandateTest {
         Checks.due("twelve: withdraw(0)", book.withdraw(0), 12);
     }
 
-    /** 0 - (1 - (2, 4 - 5), 3), 6. */
-    private static LapseMandates tree() {
-        LapseMandates book = new LapseMandates();
-        book.give(-1, 0, 100, 1000, 0);
-        book.give(0, 1, 100, 900, 0);
-        book.give(1, 2, 100, 800, 2);
-        book.give(0, 3, 100, 700, 1);
-        book.give(1, 4, 100, 600, 1);
-        book.give(4, 5, 100, 500, 0);
-        book.give(-1, 6, 100, 400, 0);
-        return book;
-    }
-
     private static void withdrawsAllThatLiesUnder() {
-        LapseMandates book = tree();
+        LapseMandates book = Books.tree();
         book.pass(7);
         Checks.due("withdraw(4)", book.withdraw(4), 2);
         book.pass(1);
@@ -166,7 +153,7 @@ public final class MandateTest {
     }
 
     private static void dropsRequestsButNotUrgentOnes() {
-        LapseMandates book = tree();
+        LapseMandates book = Books.tree();
         book.spend(2, 10);
         book.spend(3, 20);
         book.urge(4, 30);
@@ -184,7 +171,7 @@ public final class MandateTest {
     }
 
     private static void changesLimits() {
-        LapseMandates book = tree();
+        LapseMandates book = Books.tree();
         Checks.dueThrow(book, "limit: no such", Checks.OUT_OF_BOUNDS, () -> book.limit(7, 0, 0));
         Checks.dueThrow(book, "limit: -1", Checks.OUT_OF_BOUNDS, () -> book.limit(-1, 1, 1));
         Checks.dueThrow(book, "limit: each 0", Checks.ILLEGAL_ARGUMENT, () -> book.limit(6, 0, 1));
@@ -211,7 +198,7 @@ public final class MandateTest {
     }
 
     private static void changesWhatIsNeeded() {
-        LapseMandates book = tree();
+        LapseMandates book = Books.tree();
         book.spend(2, 10);
         Checks.due("need(2, 0)", book.need(2, 0), 2);
         Checks.due("need: what waits needs the same", book.request(0, 4), 2);
@@ -228,7 +215,7 @@ public final class MandateTest {
     }
 
     private static void tellsProperties() {
-        LapseMandates book = tree();
+        LapseMandates book = Books.tree();
         book.spend(5, 60);
         book.spend(1, 7);
         book.spend(4, 5);
@@ -255,7 +242,7 @@ public final class MandateTest {
     }
 
     private static void tellsWhatWouldLapse() {
-        LapseMandates book = tree();
+        LapseMandates book = Books.tree();
         Checks.due("under(0)", book.under(0), 0b111111);
         Checks.due("under(1)", book.under(1), 0b110110);
         Checks.due("under(6)", book.under(6), 0b1000000);

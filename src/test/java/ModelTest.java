@@ -5,8 +5,10 @@ import java.util.Random;
  * promises at once; and the digest after each call, so that no call changes what it should not.
  */
 public final class ModelTest {
-    private static final int RUNS = 500;
-    private static final int STEPS = 160;
+    private static final int RUNS = 700;
+    /** The document promises no more of one object; a step makes fewer than a hundred calls. */
+    private static final int MOST_CALLS = 512;
+    private static final int MOST_CALLS_OF_A_STEP = 100;
     private static final int[] EDGES = {Integer.MIN_VALUE, -2, -1, 0, 1, 2, 7, 8, 11, 12, 13, 30, 31, 32, 33, 60,
         61, 126, 127, 9999, 10000, Integer.MAX_VALUE};
     private static final String SIGNS = "s0:1;u1234567890:;";
@@ -16,6 +18,7 @@ public final class ModelTest {
     private final Model model = new Model();
     private final int most;
     private String log = "";
+    private int calls = 0;
 
     private ModelTest(long seed) {
         random = new Random(seed);
@@ -32,16 +35,18 @@ public final class ModelTest {
     }
 
     private void play(int seed) {
-        for (int call = 0; call < STEPS; call++) {
-            String name = "run " + seed + ", call " + call + ": ";
+        while (calls <= MOST_CALLS - MOST_CALLS_OF_A_STEP) {
+            String name = "run " + seed + ", call " + calls + ": ";
             int kind = random.nextInt(100);
             step(name, kind);
+            calls++;
             Checks.due(name + log + " digest()", book.digest(), model.digest());
         }
     }
 
     private void compare(String name, String call, Checks.Call got, Checks.Call want) {
         log = call;
+        calls++;
         Checks.dueSame(name + call, got, want);
     }
 

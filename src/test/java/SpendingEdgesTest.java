@@ -338,7 +338,8 @@ public final class SpendingEdgesTest {
             for (int person = 0; person < needed; person++) {
                 Checks.due("nothing is spent before", book.count(5), 0);
                 Checks.due("it waits", book.count(2), 1);
-                Checks.due("approval " + person + " of " + needed, book.approve(0, person), person + 1 == needed ? 1 : 0);
+                Checks.due("approval " + person + " of " + needed, book.approve(0, person),
+                        person + 1 == needed ? 1 : 0);
             }
             Checks.due("it is gone", book.count(2), 0);
             Checks.due("it is spent", book.mandate(3, 7), 9);

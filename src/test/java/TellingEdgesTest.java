@@ -15,13 +15,6 @@ public final class TellingEdgesTest {
         Checks.close();
     }
 
-    /** What the call answers for 0, 1, 2 and so on. */
-    private static void dueEach(String name, Checks.CallOf call, int... answers) {
-        for (int number = 0; number < answers.length; number++) {
-            Checks.due(name + " " + number, call.answer(number), answers[number]);
-        }
-    }
-
     // ---- Promise 17
 
     private static void mandate() {
@@ -47,16 +40,16 @@ public final class TellingEdgesTest {
 
     private static void upperOne() {
         LapseMandates tree = Books.tree();
-        dueEach("the upper one of", number -> tree.mandate(number, 0), -1, 0, 1, 0, 1, 4, LapseMandates.NONE);
+        Checks.dueEach("the upper one of", number -> tree.mandate(number, 0), -1, 0, 1, 0, 1, 4, LapseMandates.NONE);
         tree.withdraw(1);
-        dueEach("when some lapsed, that of", number -> tree.mandate(number, 0), -1, 0, 1, 0, 1, 4, -1);
+        Checks.dueEach("when some lapsed, that of", number -> tree.mandate(number, 0), -1, 0, 1, 0, 1, 4, -1);
         LapseMandates ladder = Books.ladder();
         Checks.due("of the twelfth", ladder.mandate(11, 0), 10);
     }
 
     private static void holder() {
         LapseMandates book = Books.twelve();
-        dueEach("the holder of", number -> book.mandate(number, 1), 0, 1, 2, 3, 4, 5, 6, 7, 0, 1, 2, 3);
+        Checks.dueEach("the holder of", number -> book.mandate(number, 1), 0, 1, 2, 3, 4, 5, 6, 7, 0, 1, 2, 3);
         book.withdraw(7);
         Checks.due("who held one that lapsed", book.mandate(7, 1), 7);
     }
@@ -65,9 +58,9 @@ public final class TellingEdgesTest {
         LapseMandates book = new LapseMandates();
         book.give(-1, 0, 1, 9999, 0);
         book.give(-1, 0, 9999, 1, 0);
-        dueEach("the limit for each of", number -> book.mandate(number, 2), 1, 9999);
+        Checks.dueEach("the limit for each of", number -> book.mandate(number, 2), 1, 9999);
         book.limit(0, 2, 9999);
-        dueEach("changed, that of", number -> book.mandate(number, 2), 2, 9999);
+        Checks.dueEach("changed, that of", number -> book.mandate(number, 2), 2, 9999);
         book.withdraw(0);
         Checks.due("of one that lapsed", book.mandate(0, 2), 2);
     }
@@ -76,9 +69,9 @@ public final class TellingEdgesTest {
         LapseMandates book = new LapseMandates();
         book.give(-1, 0, 1, 9999, 0);
         book.give(-1, 0, 9999, 1, 0);
-        dueEach("the limit for a period of", number -> book.mandate(number, 3), 9999, 1);
+        Checks.dueEach("the limit for a period of", number -> book.mandate(number, 3), 9999, 1);
         book.limit(1, 9999, 2);
-        dueEach("changed, that of", number -> book.mandate(number, 3), 9999, 2);
+        Checks.dueEach("changed, that of", number -> book.mandate(number, 3), 9999, 2);
         book.withdraw(1);
         Checks.due("of one that lapsed", book.mandate(1, 3), 2);
     }
@@ -88,20 +81,20 @@ public final class TellingEdgesTest {
         for (int needed = 0; needed <= 3; needed++) {
             book.give(-1, 0, 5, 5, needed);
         }
-        dueEach("the approvals of", number -> book.mandate(number, 4), 0, 1, 2, 3);
+        Checks.dueEach("the approvals of", number -> book.mandate(number, 4), 0, 1, 2, 3);
         book.need(0, 3);
         book.need(3, 0);
-        dueEach("changed, those of", number -> book.mandate(number, 4), 3, 1, 2, 0);
+        Checks.dueEach("changed, those of", number -> book.mandate(number, 4), 3, 1, 2, 0);
     }
 
     private static void whetherItStands() {
         LapseMandates book = Books.tree();
-        dueEach("whether it stands", number -> book.mandate(number, 5), 1, 1, 1, 1, 1, 1, 1);
+        Checks.dueEach("whether it stands", number -> book.mandate(number, 5), 1, 1, 1, 1, 1, 1, 1);
         book.withdraw(4);
         book.urge(2, 1);
-        dueEach("withdrawn", number -> book.mandate(number, 5), 1, 1, 1, 1, 0, 0, 1);
+        Checks.dueEach("withdrawn", number -> book.mandate(number, 5), 1, 1, 1, 1, 0, 0, 1);
         book.pass(4);
-        dueEach("lapsed by days", number -> book.mandate(number, 5), 1, 1, 0, 1, 0, 0, 1);
+        Checks.dueEach("lapsed by days", number -> book.mandate(number, 5), 1, 1, 0, 1, 0, 0, 1);
     }
 
     private static void itsSum() {
@@ -111,15 +104,15 @@ public final class TellingEdgesTest {
         book.spend(4, 20);
         book.urge(0, 40);
         book.spend(3, 33);
-        dueEach("the sum of", number -> book.mandate(number, 6), 61, 21, 0, 0, 21, 1, 0);
+        Checks.dueEach("the sum of", number -> book.mandate(number, 6), 61, 21, 0, 0, 21, 1, 0);
         book.approve(0, 0);
-        dueEach("with one that waited, that of", number -> book.mandate(number, 6), 94, 21, 0, 33, 21, 1, 0);
+        Checks.dueEach("with one that waited, that of", number -> book.mandate(number, 6), 94, 21, 0, 33, 21, 1, 0);
         book.withdraw(4);
         Checks.due("of one that lapsed", book.mandate(4, 6), 21);
         book.pass(9);
         Checks.due("on day 9", book.mandate(0, 6), 94);
         book.pass(1);
-        dueEach("on day 10, that of", number -> book.mandate(number, 6), 0, 0, 0, 0, 0, 0, 0);
+        Checks.dueEach("on day 10, that of", number -> book.mandate(number, 6), 0, 0, 0, 0, 0, 0, 0);
     }
 
     private static void spentByItAlone() {
@@ -129,65 +122,65 @@ public final class TellingEdgesTest {
         book.spend(4, 20);
         book.urge(0, 40);
         book.spend(2, 7);
-        dueEach("spent by", number -> book.mandate(number, 7), 40, 0, 0, 0, 20, 1, 0);
+        Checks.dueEach("spent by", number -> book.mandate(number, 7), 40, 0, 0, 0, 20, 1, 0);
         book.urge(2, 8);
-        dueEach("with an open one, by", number -> book.mandate(number, 7), 40, 0, 8, 0, 20, 1, 0);
+        Checks.dueEach("with an open one, by", number -> book.mandate(number, 7), 40, 0, 8, 0, 20, 1, 0);
         book.pass(60);
         book.spend(0, 5);
-        dueEach("in other periods, by", number -> book.mandate(number, 7), 45, 0, 8, 0, 20, 1, 0);
+        Checks.dueEach("in other periods, by", number -> book.mandate(number, 7), 45, 0, 8, 0, 20, 1, 0);
         book.withdraw(0);
-        dueEach("when all lapsed, by", number -> book.mandate(number, 7), 45, 0, 8, 0, 20, 1, 0);
+        Checks.dueEach("when all lapsed, by", number -> book.mandate(number, 7), 45, 0, 8, 0, 20, 1, 0);
     }
 
     private static void lengthOfItsChain() {
         LapseMandates ladder = Books.ladder();
-        dueEach("the chain of", number -> ladder.mandate(number, 8), 1, 2, 3, 4, 5, 6, 7, 8, 9, 10, 11, 12);
+        Checks.dueEach("the chain of", number -> ladder.mandate(number, 8), 1, 2, 3, 4, 5, 6, 7, 8, 9, 10, 11, 12);
         ladder.set(1, 1);
         Checks.due("longer than may be by now", ladder.mandate(11, 8), 12);
         LapseMandates tree = Books.tree();
         tree.withdraw(1);
-        dueEach("with those that lapsed, that of", number -> tree.mandate(number, 8), 1, 2, 3, 2, 3, 4, 1);
+        Checks.dueEach("with those that lapsed, that of", number -> tree.mandate(number, 8), 1, 2, 3, 2, 3, 4, 1);
     }
 
     private static void howManyUnderIt() {
         LapseMandates ladder = Books.ladder();
-        dueEach("under", number -> ladder.mandate(number, 9), 11, 10, 9, 8, 7, 6, 5, 4, 3, 2, 1, 0);
+        Checks.dueEach("under", number -> ladder.mandate(number, 9), 11, 10, 9, 8, 7, 6, 5, 4, 3, 2, 1, 0);
         LapseMandates tree = Books.tree();
-        dueEach("under", number -> tree.mandate(number, 9), 5, 3, 0, 0, 1, 0, 0);
+        Checks.dueEach("under", number -> tree.mandate(number, 9), 5, 3, 0, 0, 1, 0, 0);
         tree.withdraw(5);
-        dueEach("without 5, under", number -> tree.mandate(number, 9), 4, 2, 0, 0, 0, 0, 0);
+        Checks.dueEach("without 5, under", number -> tree.mandate(number, 9), 4, 2, 0, 0, 0, 0, 0);
         tree.withdraw(1);
-        dueEach("without 1, 2, 4, 5, under", number -> tree.mandate(number, 9), 1, 0, 0, 0, 0, 0, 0);
+        Checks.dueEach("without 1, 2, 4, 5, under", number -> tree.mandate(number, 9), 1, 0, 0, 0, 0, 0, 0);
         tree.withdraw(0);
-        dueEach("when all but 6 lapsed, under", number -> tree.mandate(number, 9), 0, 0, 0, 0, 0, 0, 0);
+        Checks.dueEach("when all but 6 lapsed, under", number -> tree.mandate(number, 9), 0, 0, 0, 0, 0, 0, 0);
     }
 
     private static void requestsByIt() {
         LapseMandates book = Books.tree();
-        dueEach("at first, by", number -> book.mandate(number, 10), 0, 0, 0, 0, 0, 0, 0);
+        Checks.dueEach("at first, by", number -> book.mandate(number, 10), 0, 0, 0, 0, 0, 0, 0);
         Checks.write(book, "s2:1;u2:2;s3:3;s2:4;u4:5;s4:6");
         book.run();
-        dueEach("six, by", number -> book.mandate(number, 10), 0, 0, 3, 1, 2, 0, 0);
+        Checks.dueEach("six, by", number -> book.mandate(number, 10), 0, 0, 3, 1, 2, 0, 0);
         book.approve(2, 0);
         book.takeBack(0);
-        dueEach("four, by", number -> book.mandate(number, 10), 0, 0, 2, 0, 2, 0, 0);
+        Checks.dueEach("four, by", number -> book.mandate(number, 10), 0, 0, 2, 0, 2, 0, 0);
         book.withdraw(1);
-        dueEach("the open ones of lapsed ones, by", number -> book.mandate(number, 10), 0, 0, 1, 0, 1, 0, 0);
+        Checks.dueEach("the open ones of lapsed ones, by", number -> book.mandate(number, 10), 0, 0, 1, 0, 1, 0, 0);
     }
 
     private static void dayOfItsLapse() {
         LapseMandates book = Books.tree();
-        dueEach("it stands", number -> book.mandate(number, 11), -1, -1, -1, -1, -1, -1, LapseMandates.NONE);
+        Checks.dueEach("it stands", number -> book.mandate(number, 11), -1, -1, -1, -1, -1, -1, LapseMandates.NONE);
         book.withdraw(5);
         Checks.due("on the day 0", book.mandate(5, 11), 0);
         book.urge(4, 1);
         book.pass(60);
         Checks.due("of several days, the one on which it was too late", book.mandate(4, 11), 4);
         book.withdraw(1);
-        dueEach("each on its own day", number -> book.mandate(number, 11), -1, 60, 60, -1, 4, 0, -1);
+        Checks.dueEach("each on its own day", number -> book.mandate(number, 11), -1, 60, 60, -1, 4, 0, -1);
         Books.passTo(book, 5000);
         book.withdraw(0);
-        dueEach("on the last day, too", number -> book.mandate(number, 11), 5000, 60, 60, 5000, 4, 0, -1);
+        Checks.dueEach("on the last day, too", number -> book.mandate(number, 11), 5000, 60, 60, 5000, 4, 0, -1);
     }
 
     private static void mandateNoMandate() {
@@ -234,9 +227,9 @@ public final class TellingEdgesTest {
 
     private static void itsMandate() {
         LapseMandates book = Books.full();
-        dueEach("the mandate of", request -> book.request(request, 0), 1, 2, 3, 9, 10, 11);
+        Checks.dueEach("the mandate of", request -> book.request(request, 0), 1, 2, 3, 9, 10, 11);
         book.takeBack(0);
-        dueEach("the first is gone, that of", request -> book.request(request, 0), 2, 3, 9, 10, 11);
+        Checks.dueEach("the first is gone, that of", request -> book.request(request, 0), 2, 3, 9, 10, 11);
         LapseMandates one = Books.one(5, 5, 1);
         one.spend(0, 1);
         Checks.due("the mandate 0", one.request(0, 0), 0);
@@ -247,7 +240,7 @@ public final class TellingEdgesTest {
         book.spend(0, 9999);
         book.spend(0, 1);
         book.urge(0, 4999);
-        dueEach("the amount of", request -> book.request(request, 1), 9999, 1, 4999);
+        Checks.dueEach("the amount of", request -> book.request(request, 1), 9999, 1, 4999);
         book.limit(0, 1, 1);
         Checks.due("above its limit by now", book.request(0, 1), 9999);
     }
@@ -260,9 +253,9 @@ public final class TellingEdgesTest {
         book.urge(0, 1);
         book.pass(2);
         book.spend(0, 1);
-        dueEach("the day of", request -> book.request(request, 2), 0, 7, 9);
+        Checks.dueEach("the day of", request -> book.request(request, 2), 0, 7, 9);
         book.takeBack(0);
-        dueEach("the first is gone, that of", request -> book.request(request, 2), 7, 9);
+        Checks.dueEach("the first is gone, that of", request -> book.request(request, 2), 7, 9);
         LapseMandates last = Books.one(10, 10, 1);
         Books.passTo(last, 5000);
         last.spend(0, 1);
@@ -271,19 +264,19 @@ public final class TellingEdgesTest {
 
     private static void whetherItIsUrgent() {
         LapseMandates book = Books.full();
-        dueEach("whether urgent:", request -> book.request(request, 3), 0, 0, 1, 0, 1, 0);
+        Checks.dueEach("whether urgent:", request -> book.request(request, 3), 0, 0, 1, 0, 1, 0);
         book.takeBack(0);
         book.spend(1, 1);
-        dueEach("one gone, another new:", request -> book.request(request, 3), 0, 1, 0, 1, 0, 0);
+        Checks.dueEach("one gone, another new:", request -> book.request(request, 3), 0, 1, 0, 1, 0, 0);
     }
 
     private static void approvalsItNeeds() {
         LapseMandates book = Books.full();
-        dueEach("the approvals of", request -> book.request(request, 4), 1, 2, 3, 1, 2, 3);
+        Checks.dueEach("the approvals of", request -> book.request(request, 4), 1, 2, 3, 1, 2, 3);
         book.need(3, 0);
         book.need(1, 3);
         book.approve(5, 0);
-        dueEach("as when asked for, those of", request -> book.request(request, 4), 1, 2, 3, 1, 2, 3);
+        Checks.dueEach("as when asked for, those of", request -> book.request(request, 4), 1, 2, 3, 1, 2, 3);
     }
 
     private static void whoApproved() {
@@ -317,7 +310,7 @@ public final class TellingEdgesTest {
         for (int number = 0; number < 4; number++) {
             book.spend(number, 1);
         }
-        dueEach("who could approve", request -> book.request(request, 6), 0, 0b1, 0b10000001, 0b00010001);
+        Checks.dueEach("who could approve", request -> book.request(request, 6), 0, 0b1, 0b10000001, 0b00010001);
         book.approve(2, 7);
         Checks.due("not who did", book.request(2, 6), 0b1);
         book.approve(2, 0);
@@ -372,15 +365,15 @@ public final class TellingEdgesTest {
         book.give(-1, 7, 9, 99, 0);
         book.spend(0, 3);
         book.spend(1, 4);
-        dueEach("spent by", person -> book.person(person, 1), 3, 0, 0, 0, 0, 0, 0, 4);
+        Checks.dueEach("spent by", person -> book.person(person, 1), 3, 0, 0, 0, 0, 0, 0, 4);
     }
 
     private static void holds() {
         LapseMandates book = Books.twelve();
-        dueEach("held by", person -> book.person(person, 0), 2, 2, 2, 2, 1, 1, 1, 1);
+        Checks.dueEach("held by", person -> book.person(person, 0), 2, 2, 2, 2, 1, 1, 1, 1);
         book.withdraw(8);
         book.withdraw(7);
-        dueEach("without 7 and 8, by", person -> book.person(person, 0), 1, 2, 2, 2, 1, 1, 1, 0);
+        Checks.dueEach("without 7 and 8, by", person -> book.person(person, 0), 1, 2, 2, 2, 1, 1, 1, 0);
         LapseMandates all = new LapseMandates();
         for (int number = 0; number < 12; number++) {
             all.give(-1, 7, 1, 1, 0);
@@ -394,15 +387,16 @@ public final class TellingEdgesTest {
         book.spend(0, 100);
         book.spend(8, 20);
         book.urge(7, 3);
-        dueEach("spent by", person -> book.person(person, 1), 120, 0, 0, 0, 0, 0, 0, 3);
+        Checks.dueEach("spent by", person -> book.person(person, 1), 120, 0, 0, 0, 0, 0, 0, 3);
         book.withdraw(0);
         book.pass(60);
-        dueEach("held before, and in another period, by", person -> book.person(person, 1), 120, 0, 0, 0, 0, 0, 0, 3);
+        Checks.dueEach("held before, and in another period, by", person -> book.person(person, 1),
+                120, 0, 0, 0, 0, 0, 0, 3);
         LapseMandates chain = Books.chain(1);
         chain.spend(2, 50);
         Checks.due("not what waits", chain.person(2, 1), 0);
         chain.approve(0, 0);
-        dueEach("by the holder of its mandate alone:", person -> chain.person(person, 1), 0, 0, 50, 0);
+        Checks.dueEach("by the holder of its mandate alone:", person -> chain.person(person, 1), 0, 0, 50, 0);
         chain.urge(2, 50);
         Checks.due("what is open", chain.person(2, 1), 100);
     }
@@ -414,42 +408,42 @@ public final class TellingEdgesTest {
         book.approve(0, 0);
         book.approve(1, 0);
         book.approve(1, 1);
-        dueEach("approvals of", person -> book.person(person, 2), 2, 1, 0);
+        Checks.dueEach("approvals of", person -> book.person(person, 2), 2, 1, 0);
         book.limit(2, 200, 1);
         book.approve(0, 1);
-        dueEach("with one that has failed, of", person -> book.person(person, 2), 2, 2, 0);
+        Checks.dueEach("with one that has failed, of", person -> book.person(person, 2), 2, 2, 0);
         book.undo();
-        dueEach("undone, of", person -> book.person(person, 2), 2, 1, 0);
+        Checks.dueEach("undone, of", person -> book.person(person, 2), 2, 1, 0);
         book.takeBack(0);
-        dueEach("when it was taken back, of", person -> book.person(person, 2), 2, 1, 0);
+        Checks.dueEach("when it was taken back, of", person -> book.person(person, 2), 2, 1, 0);
         book.withdraw(0);
         book.pass(60);
-        dueEach("when all lapsed, of", person -> book.person(person, 2), 2, 1, 0, 0, 0, 0, 0, 0);
+        Checks.dueEach("when all lapsed, of", person -> book.person(person, 2), 2, 1, 0, 0, 0, 0, 0, 0);
         LapseMandates last = new LapseMandates();
         last.give(-1, 7, 9, 9, 0);
         last.give(0, 6, 9, 9, 1);
         last.urge(1, 1);
         last.approve(0, 7);
-        dueEach("of", person -> last.person(person, 2), 0, 0, 0, 0, 0, 0, 0, 1);
+        Checks.dueEach("of", person -> last.person(person, 2), 0, 0, 0, 0, 0, 0, 0, 1);
     }
 
     private static void couldApproveNow() {
         LapseMandates book = Books.chain(2);
-        dueEach("nothing waits:", person -> book.person(person, 3), 0, 0, 0, 0, 0, 0, 0, 0);
+        Checks.dueEach("nothing waits:", person -> book.person(person, 3), 0, 0, 0, 0, 0, 0, 0, 0);
         Checks.write(book, "s2:1;u2:1;s1:1;u1:1;s0:1;u0:1");
         book.run();
-        dueEach("six wait:", person -> book.person(person, 3), 4, 2, 0, 0, 0, 0, 0, 0);
+        Checks.dueEach("six wait:", person -> book.person(person, 3), 4, 2, 0, 0, 0, 0, 0, 0);
         book.approve(0, 0);
         book.approve(1, 1);
-        dueEach("not what they did approve:", person -> book.person(person, 3), 3, 1, 0, 0);
+        Checks.dueEach("not what they did approve:", person -> book.person(person, 3), 3, 1, 0, 0);
         book.withdraw(0);
-        dueEach("open ones of lapsed ones:", person -> book.person(person, 3), 2, 0, 0, 0);
+        Checks.dueEach("open ones of lapsed ones:", person -> book.person(person, 3), 2, 0, 0, 0);
         LapseMandates six = Books.chain(1);
         six.give(-1, 7, 9, 9, 0);
         for (int turn = 0; turn < 6; turn++) {
             six.spend(2, 1);
         }
-        dueEach("all six:", person -> six.person(person, 3), 6, 6, 0, 0, 0, 0, 0, 0);
+        Checks.dueEach("all six:", person -> six.person(person, 3), 6, 6, 0, 0, 0, 0, 0, 0);
     }
 
     private static void personNoPerson() {
@@ -721,11 +715,11 @@ public final class TellingEdgesTest {
 
     private static void settings() {
         LapseMandates book = new LapseMandates();
-        dueEach("at first, setting", book::setting, 3, 4);
+        Checks.dueEach("at first, setting", book::setting, 3, 4);
         book.set(0, 5);
-        dueEach("the first was changed, setting", book::setting, 5, 4);
+        Checks.dueEach("the first was changed, setting", book::setting, 5, 4);
         book.set(1, 6);
-        dueEach("the second, too, setting", book::setting, 5, 6);
+        Checks.dueEach("the second, too, setting", book::setting, 5, 6);
     }
 
     private static void settingValues() {
@@ -739,7 +733,7 @@ public final class TellingEdgesTest {
             Checks.due("setting(1)", book.setting(1), value);
         }
         book.undo();
-        dueEach("undone, setting", book::setting, 30, 11);
+        Checks.dueEach("undone, setting", book::setting, 30, 11);
     }
 
     private static void settingNoSetting() {

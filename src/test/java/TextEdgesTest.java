@@ -188,10 +188,8 @@ public final class TextEdgesTest {
     }
 
     private static void dueSigns(String before, String taken) {
-        LapseMandates book = new LapseMandates();
         for (int code = 33; code <= 126; code++) {
-            book.clearBuffer();
-            Checks.write(book, before);
+            LapseMandates book = with(before);
             book.append(code);
             int error = before.length() + (taken.indexOf(code) >= 0 ? 1 : 0);
             Checks.due("firstError() of " + before + (char) code, book.firstError(), error);
@@ -219,16 +217,6 @@ public final class TextEdgesTest {
                 TextEdgesTest::savesAtMostSix);
     }
 
-    /** 0 of person 0, and 1 of person 1 under it, which needs an approval; one is open, one waits. */
-    private static LapseMandates small() {
-        LapseMandates book = new LapseMandates();
-        book.give(-1, 0, 100, 1000, 0);
-        book.give(0, 1, 100, 1000, 1);
-        book.urge(1, 5);
-        book.spend(1, 6);
-        return book;
-    }
-
     private static void dueSaved(String name, LapseMandates book, Checks.Call call) {
         long before = book.digest();
         call.answer();
@@ -238,7 +226,7 @@ public final class TextEdgesTest {
     }
 
     private static void undoableSaves() {
-        LapseMandates book = small();
+        LapseMandates book = Books.small();
         dueSaved("give", book, () -> book.give(1, 2, 3, 4, 1));
         dueSaved("withdraw", book, () -> book.withdraw(0));
         dueSaved("limit", book, () -> book.limit(1, 7, 8));
@@ -254,7 +242,7 @@ public final class TextEdgesTest {
     }
 
     private static void othersSaveNothing() {
-        LapseMandates book = small();
+        LapseMandates book = Books.small();
         book.append('s');
         book.firstError();
         book.clearBuffer();
@@ -266,7 +254,7 @@ public final class TextEdgesTest {
     }
 
     private static void whatThrowsSavesNothing() {
-        LapseMandates book = small();
+        LapseMandates book = Books.small();
         Checks.dueThrow(book, "give", Checks.ILLEGAL_STATE, () -> book.give(0, 0, 101, 1, 0));
         Checks.dueThrow(book, "withdraw", Checks.OUT_OF_BOUNDS, () -> book.withdraw(2));
         Checks.dueThrow(book, "limit", Checks.ILLEGAL_STATE, () -> book.limit(0, 1, 1));
@@ -284,7 +272,7 @@ public final class TextEdgesTest {
     }
 
     private static void savesIfNothingChanges() {
-        LapseMandates book = small();
+        LapseMandates book = Books.small();
         dueSaved("limit, the same", book, () -> book.limit(1, 100, 1000));
         dueSaved("need, the same", book, () -> book.need(1, 1));
         dueSaved("set(0), the same", book, () -> book.set(0, 3));
@@ -296,10 +284,10 @@ public final class TextEdgesTest {
     }
 
     private static void savesAllButTheBuffer() {
-        LapseMandates book = small();
+        LapseMandates book = Books.small();
         book.limit(1, 5, 1000);
         Checks.write(book, "s0:1;x");
-        LapseMandates before = small();
+        LapseMandates before = Books.small();
         before.limit(1, 5, 1000);
         Checks.write(before, "s0:1;x");
         Checks.due("a request has failed", book.approve(1, 0), 2);
@@ -488,16 +476,12 @@ public final class TextEdgesTest {
     }
 
     private static void appendCodes() {
-        LapseMandates book = new LapseMandates();
-        StringBuilder signs = new StringBuilder();
         for (int code = 33; code <= 126; code++) {
-            if (signs.length() == 60) {
-                book.clearBuffer();
-                signs.setLength(0);
-            }
-            signs.append((char) code);
-            Checks.due("append " + code, book.append(code), signs.length());
-            Checks.due("digest()", book.digest(), Books.digestOf(book, signs.toString()));
+            LapseMandates book = new LapseMandates();
+            Checks.due("append " + code, book.append(code), 1);
+            Checks.due("append " + code + " again", book.append(code), 2);
+            String signs = String.valueOf((char) code) + (char) code;
+            Checks.due("digest() with " + signs, book.digest(), Books.digestOf(book, signs));
         }
     }
 
@@ -536,7 +520,7 @@ public final class TextEdgesTest {
     }
 
     private static void clears() {
-        LapseMandates book = small();
+        LapseMandates book = Books.small();
         long before = book.digest();
         Checks.write(book, "x");
         book.clearBuffer();
@@ -670,7 +654,7 @@ public final class TextEdgesTest {
     }
 
     private static void runIsUndone() {
-        LapseMandates book = small();
+        LapseMandates book = Books.small();
         long before = book.digest();
         Checks.write(book, "s0:1;u0:2;s1:3;u1:4");
         Checks.due("run()", book.run(), 4);

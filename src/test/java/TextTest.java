@@ -7,7 +7,6 @@ public final class TextTest {
         appends();
         clears();
         findsTheFirstError();
-        findsErrorsInEachPlace();
         carriesOut();
         stopsAtWhatThrows();
         wantsACompleteRow();
@@ -79,46 +78,8 @@ public final class TextTest {
         dueError("s0:1;u1:2;s2:3;u3:4;s4:5;u5:6;s6:7;u7:8;s8:9;u9:1;s10:2;u11:", 60);
     }
 
-    /** What each place takes, over all signs. */
-    private static void findsErrorsInEachPlace() {
-        dueSigns("", "su");
-        dueSigns("s", "0123456789");
-        dueSigns("u0", ":");
-        dueSigns("u1", ":01");
-        dueSigns("s9", ":");
-        dueSigns("s10", ":");
-        dueSigns("s11", ":");
-        dueSigns("s11:", "123456789");
-        dueSigns("s0:1", "0123456789;");
-        dueSigns("s0:10", "0123456789;");
-        dueSigns("s0:102", "0123456789;");
-        dueSigns("s0:1029", ";");
-        dueSigns("s0:1;", "su");
-        dueSigns("s0:1;u", "0123456789");
-    }
-
-    private static void dueSigns(String before, String taken) {
-        LapseMandates book = new LapseMandates();
-        for (int code = 33; code <= 126; code++) {
-            book.clearBuffer();
-            Checks.write(book, before);
-            book.append(code);
-            boolean isTaken = taken.indexOf(code) >= 0;
-            Checks.due("firstError() of " + before + (char) code, book.firstError(),
-                    before.length() + (isTaken ? 1 : 0));
-        }
-    }
-
-    private static LapseMandates withTwelve() {
-        LapseMandates book = new LapseMandates();
-        for (int number = 0; number < 12; number++) {
-            book.give(-1, number % 8, 9999, 9999, 0);
-        }
-        return book;
-    }
-
     private static void carriesOut() {
-        LapseMandates book = withTwelve();
+        LapseMandates book = Books.twelve();
         Checks.write(book, "s10:9999;u0:4999;s1:1;s11:25");
         int saved = book.count(11);
         Checks.due("run()", book.run(), 4);
@@ -166,21 +127,11 @@ public final class TextTest {
     private static void wantsACompleteRow() {
         String[] incomplete = {"", "s", "s0", "s1", "s10", "s0:", "s0:1;", "s0:1;u", "x", "s0:1x", "s0:10000", "s0:0"};
         for (String signs : incomplete) {
-            LapseMandates book = withTwelve();
+            LapseMandates book = Books.twelve();
             Checks.write(book, signs);
             Checks.dueThrow(book, "run() of " + signs, Checks.ILLEGAL_ARGUMENT, () -> book.run());
             Checks.due("the buffer stays", book.clearBuffer(), signs.length());
         }
-    }
-
-    /** 0 of person 0, and 1 of person 1 under it, which needs an approval and has one request that waits. */
-    private static LapseMandates withRequest() {
-        LapseMandates book = new LapseMandates();
-        book.give(-1, 0, 100, 1000, 0);
-        book.give(0, 1, 100, 1000, 1);
-        book.urge(1, 5);
-        book.spend(1, 6);
-        return book;
     }
 
     private static void dueUndone(String name, LapseMandates book, Checks.Call call) {
@@ -193,38 +144,38 @@ public final class TextTest {
     }
 
     private static void undoesEachMethod() {
-        LapseMandates give = withRequest();
+        LapseMandates give = Books.small();
         dueUndone("give", give, () -> give.give(-1, 0, 1, 1, 0));
-        LapseMandates withdraw = withRequest();
+        LapseMandates withdraw = Books.small();
         dueUndone("withdraw", withdraw, () -> withdraw.withdraw(0));
-        LapseMandates limit = withRequest();
+        LapseMandates limit = Books.small();
         dueUndone("limit", limit, () -> limit.limit(1, 2, 3));
-        LapseMandates same = withRequest();
+        LapseMandates same = Books.small();
         dueUndone("limit, the same", same, () -> same.limit(1, 100, 1000));
-        LapseMandates need = withRequest();
+        LapseMandates need = Books.small();
         dueUndone("need", need, () -> need.need(0, 3));
-        LapseMandates spend = withRequest();
+        LapseMandates spend = Books.small();
         dueUndone("spend", spend, () -> spend.spend(0, 3));
-        LapseMandates wait = withRequest();
+        LapseMandates wait = Books.small();
         dueUndone("spend, waits", wait, () -> wait.spend(1, 3));
-        LapseMandates urge = withRequest();
+        LapseMandates urge = Books.small();
         dueUndone("urge", urge, () -> urge.urge(1, 3));
-        LapseMandates approve = withRequest();
+        LapseMandates approve = Books.small();
         dueUndone("approve", approve, () -> approve.approve(1, 0));
-        LapseMandates takeBack = withRequest();
+        LapseMandates takeBack = Books.small();
         dueUndone("takeBack", takeBack, () -> takeBack.takeBack(1));
-        LapseMandates pass = withRequest();
+        LapseMandates pass = Books.small();
         dueUndone("pass", pass, () -> pass.pass(60));
-        LapseMandates grace = withRequest();
+        LapseMandates grace = Books.small();
         dueUndone("set(0)", grace, () -> grace.set(0, 9));
-        LapseMandates longest = withRequest();
+        LapseMandates longest = Books.small();
         dueUndone("set(1)", longest, () -> longest.set(1, 9));
-        LapseMandates unchanged = withRequest();
+        LapseMandates unchanged = Books.small();
         dueUndone("set, the same", unchanged, () -> unchanged.set(1, 4));
     }
 
     private static void savesNothingForWhatThrows() {
-        LapseMandates book = withRequest();
+        LapseMandates book = Books.small();
         Checks.dueThrow(book, "takeBack(0)", Checks.ILLEGAL_STATE, () -> book.takeBack(0));
         Checks.dueThrow(book, "spend(0, 101)", Checks.ILLEGAL_STATE, () -> book.spend(0, 101));
         Checks.due("four states", book.count(11), 4);
@@ -254,7 +205,7 @@ public final class TextTest {
     }
 
     private static void leavesTheBuffer() {
-        LapseMandates book = withRequest();
+        LapseMandates book = Books.small();
         Checks.write(book, "s0:4");
         book.need(0, 1);
         Checks.due("undo()", book.undo(), 4);

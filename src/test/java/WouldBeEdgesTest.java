@@ -22,12 +22,6 @@ public final class WouldBeEdgesTest {
         Checks.close();
     }
 
-    private static void dueEach(String name, Checks.CallOf call, int... answers) {
-        for (int number = 0; number < answers.length; number++) {
-            Checks.due(name + " " + number, call.answer(number), answers[number]);
-        }
-    }
-
     // ---- ahead of the calls
 
     private static void nothingIsChanged() {
@@ -274,7 +268,7 @@ public final class WouldBeEdgesTest {
     private static void wouldLapse() {
         LapseMandates tree = Books.tree();
         int[] masks = {0b0111111, 0b0110110, 0b0000100, 0b0001000, 0b0110000, 0b0100000, 0b1000000};
-        dueEach("under", tree::under, masks);
+        Checks.dueEach("under", tree::under, masks);
         for (int number = 0; number < masks.length; number++) {
             Checks.due("withdraw", tree.withdraw(number), Integer.bitCount(masks[number]));
             Checks.due("what stands", Books.standing(tree), 0b1111111 & ~masks[number]);
@@ -289,9 +283,9 @@ public final class WouldBeEdgesTest {
     private static void lapsesNoMore() {
         LapseMandates tree = Books.tree();
         tree.withdraw(4);
-        dueEach("4 and 5 have lapsed, under", tree::under, 0b0001111, 0b0000110, 0b100, 0b1000, 0, 0, 0b1000000);
+        Checks.dueEach("4 and 5 have lapsed, under", tree::under, 0b0001111, 0b0000110, 0b100, 0b1000, 0, 0, 0b1000000);
         tree.withdraw(0);
-        dueEach("all but 6 have lapsed, under", tree::under, 0, 0, 0, 0, 0, 0, 0b1000000);
+        Checks.dueEach("all but 6 have lapsed, under", tree::under, 0, 0, 0, 0, 0, 0, 0b1000000);
         tree.need(6, 1);
         tree.urge(6, 1);
         tree.pass(4);
@@ -319,30 +313,30 @@ public final class WouldBeEdgesTest {
 
     private static void leastDifference() {
         LapseMandates book = Books.chain(0);
-        dueEach("at first, itself:", book::narrowest, 0, 1, 2);
+        Checks.dueEach("at first, itself:", book::narrowest, 0, 1, 2);
         book.spend(1, 201);
-        dueEach("399 are left of 1:", book::narrowest, 0, 1, 1);
+        Checks.dueEach("399 are left of 1:", book::narrowest, 0, 1, 1);
         book.spend(0, 401);
-        dueEach("398 are left of 0:", book::narrowest, 0, 0, 0);
+        Checks.dueEach("398 are left of 0:", book::narrowest, 0, 0, 0);
         book.spend(2, 3);
-        dueEach("397 of 2 are no fewer than 395 of 0:", book::narrowest, 0, 0, 0);
+        Checks.dueEach("397 of 2 are no fewer than 395 of 0:", book::narrowest, 0, 0, 0);
         book.limit(2, 200, 10);
-        dueEach("7 are left of 2:", book::narrowest, 0, 0, 2);
+        Checks.dueEach("7 are left of 2:", book::narrowest, 0, 0, 2);
         book.limit(2, 200, 1);
-        dueEach("2 is above its limit by 2:", book::narrowest, 0, 0, 2);
+        Checks.dueEach("2 is above its limit by 2:", book::narrowest, 0, 0, 2);
         book.limit(1, 200, 2);
-        dueEach("1 is above its limit by 202:", book::narrowest, 0, 1, 1);
+        Checks.dueEach("1 is above its limit by 202:", book::narrowest, 0, 1, 1);
         book.limit(0, 500, 403);
-        dueEach("0 is above its limit by 202, too:", book::narrowest, 0, 1, 1);
+        Checks.dueEach("0 is above its limit by 202, too:", book::narrowest, 0, 1, 1);
         book.limit(0, 500, 402);
-        dueEach("0 is above its limit by 203:", book::narrowest, 0, 0, 0);
+        Checks.dueEach("0 is above its limit by 203:", book::narrowest, 0, 0, 0);
         book.withdraw(0);
-        dueEach("when all lapsed:", book::narrowest, 0, 0, 0);
+        Checks.dueEach("when all lapsed:", book::narrowest, 0, 0, 0);
         book.pass(10);
-        dueEach("in the next period:", book::narrowest, 0, 1, 2);
+        Checks.dueEach("in the next period:", book::narrowest, 0, 1, 2);
         LapseMandates ladder = Books.ladder();
         ladder.spend(0, 1);
-        dueEach("the topmost of twelve:", ladder::narrowest, 0, 0, 0, 0, 0, 0, 0, 0, 0, 0, 0, 0);
+        Checks.dueEach("the topmost of twelve:", ladder::narrowest, 0, 0, 0, 0, 0, 0, 0, 0, 0, 0, 0, 0);
     }
 
     private static void nearestOfSeveral() {
@@ -350,17 +344,17 @@ public final class WouldBeEdgesTest {
         same.give(-1, 0, 50, 90, 0);
         same.give(0, 1, 50, 90, 0);
         same.give(1, 2, 50, 90, 0);
-        dueEach("all the same:", same::narrowest, 0, 1, 2);
+        Checks.dueEach("all the same:", same::narrowest, 0, 1, 2);
         same.spend(2, 40);
-        dueEach("all the same, less by 40:", same::narrowest, 0, 1, 2);
+        Checks.dueEach("all the same, less by 40:", same::narrowest, 0, 1, 2);
         same.spend(1, 1);
-        dueEach("two above:", same::narrowest, 0, 1, 1);
+        Checks.dueEach("two above:", same::narrowest, 0, 1, 1);
         same.spend(0, 1);
-        dueEach("the topmost:", same::narrowest, 0, 0, 0);
+        Checks.dueEach("the topmost:", same::narrowest, 0, 0, 0);
         LapseMandates ladder = Books.ladder();
-        dueEach("all the same:", ladder::narrowest, 0, 1, 2, 3, 4, 5, 6, 7, 8, 9, 10, 11);
+        Checks.dueEach("all the same:", ladder::narrowest, 0, 1, 2, 3, 4, 5, 6, 7, 8, 9, 10, 11);
         ladder.spend(6, 10);
-        dueEach("seven the same:", ladder::narrowest, 0, 1, 2, 3, 4, 5, 6, 6, 6, 6, 6, 6);
+        Checks.dueEach("seven the same:", ladder::narrowest, 0, 1, 2, 3, 4, 5, 6, 6, 6, 6, 6, 6);
     }
 
     private static void narrowestNoMandate() {
@@ -427,16 +421,16 @@ public final class WouldBeEdgesTest {
     private static void lapsesByOneAbove() {
         LapseMandates book = Books.tree();
         book.urge(4, 1);
-        dueEach("by 4, in how many days", book::lapsesIn, -1, -1, -1, -1, 4, 4, -1);
+        Checks.dueEach("by 4, in how many days", book::lapsesIn, -1, -1, -1, -1, 4, 4, -1);
         book.pass(1);
         book.need(1, 1);
         book.urge(1, 1);
-        dueEach("by 1 and 4, in how many days", book::lapsesIn, -1, 4, 4, -1, 3, 3, -1);
+        Checks.dueEach("by 1 and 4, in how many days", book::lapsesIn, -1, 4, 4, -1, 3, 3, -1);
         book.need(0, 1);
         book.pass(1);
         book.set(0, 1);
         book.urge(0, 1);
-        dueEach("by 0, 1 and 4, in how many days", book::lapsesIn, 2, 1, 1, 2, 1, 1, -1);
+        Checks.dueEach("by 0, 1 and 4, in how many days", book::lapsesIn, 2, 1, 1, 2, 1, 1, -1);
         dueLapse("by one two above", book, 5, 1);
         LapseMandates ladder = Books.ladder();
         ladder.need(0, 1);
@@ -452,11 +446,11 @@ public final class WouldBeEdgesTest {
         book.urge(2, 1);
         book.pass(1);
         book.urge(1, 1);
-        dueEach("in how many days", book::lapsesIn, -1, 11, 8);
+        Checks.dueEach("in how many days", book::lapsesIn, -1, 11, 8);
         book.approve(0, 0);
-        dueEach("without the first, in how many days", book::lapsesIn, -1, 11, 10);
+        Checks.dueEach("without the first, in how many days", book::lapsesIn, -1, 11, 10);
         book.approve(0, 0);
-        dueEach("by the one above alone, in how many days", book::lapsesIn, -1, 11, 11);
+        Checks.dueEach("by the one above alone, in how many days", book::lapsesIn, -1, 11, 11);
         dueLapse("with the one above", book, 2, 11);
         LapseMandates order = Books.chain(1);
         order.urge(1, 1);
@@ -471,7 +465,8 @@ public final class WouldBeEdgesTest {
         book.urge(5, 1);
         book.spend(4, 1);
         book.spend(2, 1);
-        dueEach("nothing is open, only requests wait:", book::lapsesIn, -1, -1, -1, -1, -1, -1, LapseMandates.NONE);
+        Checks.dueEach("nothing is open, only requests wait:", book::lapsesIn,
+                -1, -1, -1, -1, -1, -1, LapseMandates.NONE);
         book.urge(3, 1);
         Checks.due("its own is open", book.lapsesIn(3), 4);
         Checks.due("not by one under it", book.lapsesIn(0), -1);
@@ -492,14 +487,14 @@ public final class WouldBeEdgesTest {
         book.urge(1, 1);
         book.urge(2, 1);
         book.withdraw(2);
-        dueEach("2 was withdrawn:", book::lapsesIn, -1, 4, -1);
+        Checks.dueEach("2 was withdrawn:", book::lapsesIn, -1, 4, -1);
         book.withdraw(1);
-        dueEach("its own are open, but it has lapsed:", book::lapsesIn, -1, -1, -1);
+        Checks.dueEach("its own are open, but it has lapsed:", book::lapsesIn, -1, -1, -1);
         book.urge(0, 1);
         book.pass(3);
         Checks.due("it is to come", book.lapsesIn(0), 1);
         book.pass(1);
-        dueEach("lapsed by days:", book::lapsesIn, -1, -1, -1);
+        Checks.dueEach("lapsed by days:", book::lapsesIn, -1, -1, -1);
     }
 
     private static void lapsesInNoMandate() {

@@ -32,6 +32,16 @@ final class Books {
         return book;
     }
 
+    /** 0 of person 0, and 1 of person 1 under it, which needs an approval; one is open, one waits. */
+    static LapseMandates small() {
+        LapseMandates book = new LapseMandates();
+        book.give(-1, 0, 100, 1000, 0);
+        book.give(0, 1, 100, 1000, 1);
+        book.urge(1, 5);
+        book.spend(1, 6);
+        return book;
+    }
+
     /** Twelve of the board, that need no approval and are held back by nothing. */
     static LapseMandates twelve() {
         LapseMandates book = new LapseMandates();

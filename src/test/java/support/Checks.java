@@ -44,6 +44,13 @@ final class Checks {
         }
     }
 
+    /** What the call answers for 0, 1, 2 and so on. */
+    static void dueEach(String name, CallOf call, int... answers) {
+        for (int number = 0; number < answers.length; number++) {
+            due(name + " " + number, call.answer(number), answers[number]);
+        }
+    }
+
     static void dueShare(String call, double got, double want) {
         due(call, Double.doubleToLongBits(got), Double.doubleToLongBits(want));
     }
